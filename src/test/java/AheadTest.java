@@ -127,6 +127,8 @@ public final class AheadTest {
         Check.same("with FUSE 59 none starts", 0, x.peakIn(100, 59));
         Check.same("with FUSE 69 b does not start beside a: 30 + 40", 50, x.peakIn(500, 69));
         Check.same("with FUSE 70 it does", 65, x.peakIn(500, 70));
+        Check.same("with FUSE 1", 0, x.peakIn(1, 1));
+        Check.same("with FUSE 9999", 65, x.peakIn(500, 9999));
         x.run(9);
         Check.same("not the load so far", 50, x.peakIn(1, 100));
         Check.same("a load that trips counts", 50, x.peakIn(1, 49));

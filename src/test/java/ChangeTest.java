@@ -17,6 +17,8 @@ public final class ChangeTest {
         forget();
         undo();
         undoOfEachChange();
+        undoOfATrip();
+        undoOfAPresentOrder();
         atMostEight();
         save();
         restore();
@@ -250,6 +252,31 @@ public final class ChangeTest {
             Check.same("changes left", k + 1, x.undo());
             Check.same("undone " + k, pictures.get(k), Check.picture(x));
         }
+    }
+
+    private static void undoOfATrip() {
+        BlackoutStart x = Texts.loaded(PAIR);
+        x.run(9);
+        x.setFuse(40);
+        x.run(1);
+        Check.same("tripped", 1, x.count(5));
+        List<Object> tripped = Check.picture(x);
+        x.undo();
+        Check.same("not tripped", 0, x.count(5));
+        Check.same("running", 3, x.outletsWith(3, false));
+        x.run(1);
+        Check.same("tripped again", tripped, Check.picture(x));
+    }
+
+    /** Behind undoing a blackout, those that ran before it are in the present order still. */
+    private static void undoOfAPresentOrder() {
+        BlackoutStart x = Texts.loaded(PAIR);
+        x.run(7);
+        x.blackout(1);
+        x.undo();
+        x.run(3);
+        Check.same("a", 0, x.learned(0));
+        Check.same("b", 1, x.learned(1));
     }
 
     private static void atMostEight() {

@@ -217,6 +217,9 @@ public final class ReportTest {
         Check.same("more", 0.65, x.strain());
         x.setFuse(3);
         Check.same("by the FUSE now", 65.0 / 3.0, x.strain());
+        x.setFuse(1);
+        Check.same("by a FUSE of 1", 65.0, x.strain());
+        x.setFuse(3);
         x.blackout(5);
         Check.same("so far", 65.0 / 3.0, x.strain());
     }
@@ -357,6 +360,10 @@ public final class ReportTest {
         x.setFuse(150);
         Check.same("d would be granted", 0, x.why(3));
         Check.same("c does not fit beside", 7, x.why(2));
+        x.setFuse(101);
+        Check.same("c alone is just FUSE", 7, x.why(2));
+        x.setFuse(89);
+        Check.same("d alone is greater", 6, x.why(3));
         x.setFuse(100);
         x.run(1);
         Check.same("starting", 2, x.why(0));

@@ -8,6 +8,7 @@ public final class TextTest {
         truncate();
         loadsEveryStatement();
         loadBeginsAnew();
+        loadLeavesNothing();
         failedLoadKeepsAll();
         blanksAndTokens();
         errorsOfFuse();
@@ -111,11 +112,42 @@ public final class TextTest {
         Check.state("no change", x, () -> x.undo());
         Check.same("buffer empty", 0, x.truncate(0));
         Check.index("buffer really empty", x, () -> x.truncate(1));
+        Check.same("rules stand once in each text", 1, Texts.load(x, "fuse 70;outlet b 1 2 2 3 4;loss 0;retry 3;patience 4;"));
+        Check.same("once more", 1, Texts.load(x, "fuse 70;outlet b 1 2 2 3 4;off b;"));
         fresh.want(0, true);
         x.want(0, true);
         fresh.run(50);
         x.run(50);
         Check.same("goes on as new", Check.picture(fresh), Check.picture(x));
+    }
+
+    /** What a text told, and what went on in it, is in no way seen behind loading the plainest text. */
+    private static void loadLeavesNothing() {
+        String plain = "fuse 70;outlet a 1 2 2 3 4;outlet b 1 2 2 3 4;";
+        BlackoutStart fresh = Texts.loaded(plain);
+        BlackoutStart x = Texts.loaded("fuse 9;outlet a 9 9 9 9 9;outlet b 9 9 9 9 9;need a b;off a;off b;strict;loss 1;dark 9 9;"
+                + "retry 9;patience 9;");
+        Texts.load(x, plain);
+        Check.same("no rule stays", Check.picture(fresh), Check.picture(x));
+        Texts.load(x, "fuse 40;outlet a 9 9 9 1 9;outlet b 9 19 9 20 9;dark 11 50;");
+        x.run(4);
+        x.want(0, false);
+        x.setFuse(8);
+        Check.same("b is starting", 2, x.outlet(1, 6));
+        Check.same("a message is to be received", 1, x.count(6));
+        Texts.load(x, plain);
+        Check.same("no start stays", Check.picture(fresh), Check.picture(x));
+        x.run(20);
+        fresh.run(20);
+        Check.same("no stop stays", Check.picture(fresh), Check.picture(x));
+        Texts.load(x, "fuse 40;outlet a 30 30 30 1 9;");
+        x.run(3);
+        x.setFuse(9);
+        x.run(1);
+        Check.same("it trips", 1, x.count(5));
+        Texts.load(x, plain);
+        x.run(20);
+        Check.same("no darkness stays", Check.picture(fresh), Check.picture(x));
     }
 
     private static void failedLoadKeepsAll() {
@@ -169,6 +201,8 @@ public final class TextTest {
         right("   ", 1, 3);
         right("fuses 1;", 1, 0);
         right("fus 1;", 1, 0);
+        right("tuse 1;", 1, 0);
+        right("fusf 1;", 1, 0);
         right("7", 1, 0);
         right("fuse", 1, 4);
         right("fuse ;", 1, 5);
@@ -259,7 +293,12 @@ public final class TextTest {
         right(one + "retry 1;retry 1;", 5, at + 8);
         right(one + "patience 2;patience 2;", 5, at + 11);
         right(one + "strict;off a;strict;", 5, at + 13);
+        right(one + "loss 1;retry 1;patience 2;strict;loss 1;", 5, at + 33);
+        right(one + "retry 1;loss 1;retry 1;", 5, at + 15);
+        right(one + "patience 2;strict;patience 2;", 5, at + 18);
         right(one + "rest 1;", 1, at);
+        right(one + "soss 1;", 1, at);
+        right(one + "lark 1 1;", 1, at);
     }
 
     private static void errorsOfOrder() {

@@ -19,6 +19,8 @@ public final class TickTest {
         darkness();
         darknessOverlaps();
         learningOrder();
+        queueByTheLearnedOrder();
+        pollsAnsweredTogether();
         learningAgainBehindForget();
         presentOrderBeginsAnew();
         Check.end("TickTest");
@@ -417,6 +419,39 @@ public final class TickTest {
         x.want(1, true);
         x.run(20);
         Check.same("b stays the first", 1, x.learned(0));
+    }
+
+    /** In the queue of equal priorities, the learned come first, by their places, then the others. */
+    private static void queueByTheLearnedOrder() {
+        // a is idle at first; c starts faster than b, and so is the first of the order
+        BlackoutStart x = Texts.loaded("fuse 100;outlet a 10 90 90 1 1;outlet b 10 30 30 3 1;outlet c 10 30 30 1 1;off a;");
+        x.run(9);
+        Check.same("c, b", 2, x.learned(0));
+        Check.same("c, b, and", 1, x.learned(1));
+        x.want(0, true);
+        x.blackout(1);
+        x.setFuse(30);
+        x.run(3);
+        Check.same("c first", 4, x.outletsWith(2, true));
+        x.setFuse(90);
+        Check.same("then b, and a is passed over", 2, x.grants());
+        x.setFuse(120);
+        Check.same("not a instead of b", 2, x.grants());
+        x.setFuse(150);
+        Check.same("both", 3, x.grants());
+        BlackoutStart y = Texts.loaded("fuse 100;outlet a 10 90 90 1 1;outlet b 10 30 30 3 1;outlet c 10 30 30 1 1;");
+        y.run(2);
+        Check.same("without an order by the numbers", 1, y.outletsWith(2, true));
+    }
+
+    private static void pollsAnsweredTogether() {
+        BlackoutStart x = Texts.loaded("fuse 100;outlet a 1 2 2 20 1;outlet b 1 2 2 20 1;outlet c 1 2 2 20 1;patience 6;");
+        x.run(8);
+        Check.same("three POLLs in 7", 3, x.count(6));
+        x.run(1);
+        Check.same("three STATEs in 8", 3, x.traffic(3, false));
+        x.run(3);
+        Check.same("answered once", 3, x.traffic(3, false));
     }
 
     private static void learningAgainBehindForget() {

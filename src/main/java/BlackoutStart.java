@@ -418,7 +418,7 @@ public final class BlackoutStart {
     /** The text buffer. */
     private static final class Text {
         final byte[] bytes = new byte[MOST_TEXT];
-        int length = 0;
+        int length;
 
         void addBytes(int four) {
             for (int shift = 24; shift >= 0 && length < bytes.length; shift -= 8) {
@@ -471,9 +471,9 @@ public final class BlackoutStart {
     /** Goes through the tokens of the text. */
     private static final class Tokens {
         final Text text;
-        int kind = END;
-        int start = 0;
-        int size = 0;
+        int kind;
+        int start;
+        int size;
 
         Tokens(Text text) {
             this.text = text;
@@ -519,9 +519,9 @@ public final class BlackoutStart {
         final Text text;
         final Tokens tokens;
         final Plan draft = new Plan();
-        int errorCode = 0;
+        int errorCode;
         int errorPosition = NONE;
-        private int toldRules = 0;
+        private int toldRules;
 
         Parser(Text text) {
             this.text = text;
@@ -753,7 +753,7 @@ public final class BlackoutStart {
 
     /** What the text tells. Only load() changes it, so that no state holds it. */
     private static final class Plan {
-        int outlets = 0;
+        int outlets;
         final long[] name = new long[MOST_OUTLETS];
         final int[] steady = new int[MOST_OUTLETS];
         final int[] inrush = new int[MOST_OUTLETS];
@@ -761,17 +761,23 @@ public final class BlackoutStart {
         final int[] ticks = new int[MOST_OUTLETS];
         final int[] priority = new int[MOST_OUTLETS];
         final int[] needed = new int[MOST_OUTLETS];
-        int off = 0;
-        int fuse = 100;
-        int retry = 3;
-        int patience = 4;
-        boolean isStrict = false;
-        int script = 0;
-        int scriptLength = 0;
-        int darks = 0;
+        int off;
+        int fuse;
+        int retry;
+        int patience;
+        boolean isStrict;
+        /** Bit k is the place k of the script. */
+        int script;
+        int scriptLength;
+        int darks;
         final int[] darkTick = new int[MOST_DARKS];
         final int[] darkSpan = new int[MOST_DARKS];
 
+        Plan() {
+            clear();
+        }
+
+        /** What holds for a text that does not tell it. */
         void clear() {
             outlets = 0;
             off = 0;
@@ -843,8 +849,8 @@ public final class BlackoutStart {
         final int[] ranAt = new int[MOST_OUTLETS];
         /** The tick of the latest ASK since it began to wait. */
         final int[] askedAt = new int[MOST_OUTLETS];
-        int stopped = 0;
-        int polled = 0;
+        int stopped;
+        int polled;
 
         Outlets(Plan plan) {
             this.plan = plan;
@@ -950,7 +956,7 @@ public final class BlackoutStart {
     private static final class Order {
         final int[] outlet = new int[MOST_OUTLETS];
         final int[] place = new int[MOST_OUTLETS];
-        int size = 0;
+        int size;
 
         void clear() {
             Arrays.fill(place, NONE);
@@ -978,7 +984,7 @@ public final class BlackoutStart {
         final int[] mark = new int[MOST_OUTLETS];
         final int[] time = new int[MOST_OUTLETS];
         final int[] expected = new int[MOST_OUTLETS];
-        int learnedPeaks = 0;
+        int learnedPeaks;
         final Order learnedOrder = new Order();
         final Order presentOrder = new Order();
 
@@ -1089,12 +1095,12 @@ public final class BlackoutStart {
         final int[] kind = new int[MOST_MESSAGES];
         final int[] outlet = new int[MOST_MESSAGES];
         final int[] told = new int[MOST_MESSAGES];
-        int waiting = 0;
+        int waiting;
         final int[] sent = new int[KINDS];
         final int[] lost = new int[KINDS];
-        int sentInAll = 0;
+        int sentInAll;
         /** Set on copies alone. */
-        boolean isLossless = false;
+        boolean isLossless;
 
         Wire(Plan plan) {
             this.plan = plan;
@@ -1155,17 +1161,17 @@ public final class BlackoutStart {
         final Outlets outlets;
         final Panel panel;
         final Wire wire;
-        int tick = 0;
-        int darkUntil = 0;
-        int fuse = 0;
-        int retry = 0;
-        boolean isStrict = false;
-        int blackouts = 0;
-        int trips = 0;
-        int peak = 0;
+        int tick;
+        int darkUntil;
+        int fuse;
+        int retry;
+        boolean isStrict;
+        int blackouts;
+        int trips;
+        int peak;
         /** Room to sort in; what stands here is no part of the state. */
         private final int[] queue = new int[MOST_OUTLETS];
-        private int queued = 0;
+        private int queued;
 
         World(Plan plan) {
             this.plan = plan;
@@ -1396,9 +1402,9 @@ public final class BlackoutStart {
     private static final class History {
         final World[] before = new World[MOST_CHANGES];
         final World[] saved = new World[SLOTS];
-        int oldest = 0;
-        int changes = 0;
-        int filledSlots = 0;
+        int oldest;
+        int changes;
+        int filledSlots;
 
         History(Plan plan) {
             for (int k = 0; k < MOST_CHANGES; k++) {

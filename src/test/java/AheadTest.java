@@ -196,14 +196,14 @@ public final class AheadTest {
         x.peakIn(500, 10);
         x.sentIn(500, 1);
         Check.answer(() -> x.runsIn(0));
-        Check.same("as before", before, Check.picture(x));
+        Check.samePicture("as before", before, Check.picture(x));
         Check.same("changes that can be undone", 1, x.count(13));
         Check.same("buffer", 0, x.find());
         BlackoutStart y = Texts.loaded(PAIR + "loss 010;dark 30 4;");
         y.run(7);
         x.run(100);
         y.run(100);
-        Check.same("goes on the same", Check.picture(y), Check.picture(x));
+        Check.samePicture("goes on the same", Check.picture(y), Check.picture(x));
         x.restore(0);
         x.save(1);
         x.allIn(0);

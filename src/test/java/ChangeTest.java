@@ -39,7 +39,7 @@ public final class ChangeTest {
         List<Object> all = Check.picture(y);
         one.remove(15);
         all.remove(15);
-        Check.same("the same but the changes", all, one);
+        Check.samePicture("the same but the changes", all, one);
         Check.argument("run(0)", x, () -> x.run(0));
         Check.argument("run(-1)", x, () -> x.run(-1));
         Check.argument("run(201)", x, () -> x.run(201));
@@ -250,7 +250,7 @@ public final class ChangeTest {
         }
         for (int k = changes.length - 1; k >= 0; k--) {
             Check.same("changes left", k + 1, x.undo());
-            Check.same("undone " + k, pictures.get(k), Check.picture(x));
+            Check.samePicture("undone " + k, pictures.get(k), Check.picture(x));
         }
     }
 
@@ -265,7 +265,7 @@ public final class ChangeTest {
         Check.same("not tripped", 0, x.count(5));
         Check.same("running", 3, x.outletsWith(3, false));
         x.run(1);
-        Check.same("tripped again", tripped, Check.picture(x));
+        Check.samePicture("tripped again", tripped, Check.picture(x));
     }
 
     /** Behind undoing a blackout, those that ran before it are in the present order still. */
@@ -305,7 +305,7 @@ public final class ChangeTest {
         x.run(3);
         List<Object> before = Check.picture(x);
         x.save(1);
-        Check.same("save is no change", before, Check.picture(x));
+        Check.samePicture("save is no change", before, Check.picture(x));
         Check.none("the other slot is empty", x, () -> { x.restore(0); return 0; });
         x.run(3);
         x.save(0);
@@ -371,12 +371,12 @@ public final class ChangeTest {
             List<Object> restored = Check.picture(x);
             saved.remove(15);
             restored.remove(15);
-            Check.same("restored in " + run, saved, restored);
+            Check.samePicture("restored in " + run, saved, restored);
             x.run(40);
             List<Object> again = Check.picture(x);
             later.remove(15);
             again.remove(15);
-            Check.same("goes on the same from " + run, later, again);
+            Check.samePicture("goes on the same from " + run, later, again);
         }
     }
 }

@@ -9,16 +9,37 @@ final class Check {
 
     private static int wrong = 0;
     private static int asked = 0;
+    /** Stands before what a wrong answer is told with. */
+    private static String test = "";
 
     private Check() {
+    }
+
+    static void begin(String name) {
+        test = name + ": ";
+    }
+
+    static int asked() {
+        return asked;
     }
 
     static void same(String what, Object due, Object got) {
         asked++;
         if (!due.equals(got)) {
             wrong++;
-            System.out.println(what + " answered " + got + ", due is " + due);
+            System.out.println(test + what + " answered " + got + ", due is " + due);
         }
+    }
+
+    /** Compares two pictures, and tells the first place in which they are different. */
+    static void samePicture(String what, List<Object> due, List<Object> got) {
+        for (int k = 0; k < Math.min(due.size(), got.size()); k++) {
+            if (!due.get(k).equals(got.get(k))) {
+                same(what + ", the answer " + k + " of the picture", due.get(k), got.get(k));
+                return;
+            }
+        }
+        same(what + ", how many answers", due.size(), got.size());
     }
 
     /** What the call answers, or the name of what it throws. */
@@ -34,7 +55,7 @@ final class Check {
     static void refused(String what, Class<? extends RuntimeException> due, BlackoutStart x, Call call) {
         List<Object> before = picture(x);
         same(what, "throws " + due.getSimpleName(), answer(call));
-        same(what + " changed", before, picture(x));
+        samePicture(what + " changed", before, picture(x));
     }
 
     static void index(String what, BlackoutStart x, Call call) {
@@ -93,7 +114,11 @@ final class Check {
         }
         for (int place = 0; place < 13; place++) {
             int asked = place;
-            seen.add(answer(() -> x.learned(asked)));
+            Object outlet = answer(() -> x.learned(asked));
+            seen.add(outlet);
+            if (!(outlet instanceof Integer)) {
+                break;
+            }
         }
         return seen;
     }

@@ -59,11 +59,15 @@ public final class FaceTest {
             for (Method method : type.getDeclaredMethods()) {
                 boolean isFace = type == face && !Modifier.isPrivate(method.getModifiers());
                 Check.same("name of " + method, isFace, names.contains(method.getName()));
+                Check.same("at most seven parameters of " + method, true, method.getParameterCount() <= 7);
             }
+            int fields = 0;
             for (Field field : type.getDeclaredFields()) {
+                fields += Modifier.isStatic(field.getModifiers()) ? 0 : 1;
                 boolean isStatic = Modifier.isStatic(field.getModifiers());
                 Check.same("final " + field, true, !isStatic || Modifier.isFinal(field.getModifiers()));
             }
+            Check.same("at most twenty fields in " + type, true, fields <= 20);
         }
         for (Field field : face.getDeclaredFields()) {
             Check.same("private " + field, !field.getName().equals("NONE"), Modifier.isPrivate(field.getModifiers()));

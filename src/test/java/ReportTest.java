@@ -325,7 +325,7 @@ public final class ReportTest {
         Check.same("c is passed over", 2, x.grants());
         java.util.List<Object> before = Check.picture(x);
         x.grants();
-        Check.same("grants changes nothing", before, Check.picture(x));
+        Check.samePicture("grants changes nothing", before, Check.picture(x));
         x.blackout(1);
         Check.same("dark", 0, x.grants());
     }

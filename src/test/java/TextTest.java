@@ -106,7 +106,7 @@ public final class TextTest {
         x.blackout(50);
         BlackoutStart fresh = Texts.loaded("fuse 70;outlet b 1 2 2 3 4;off b;");
         Check.same("outlets", 1, Texts.load(x, "fuse 70;outlet b 1 2 2 3 4;off b;"));
-        Check.same("as new", Check.picture(fresh), Check.picture(x));
+        Check.samePicture("as new", Check.picture(fresh), Check.picture(x));
         Check.none("slot 0 empty", x, () -> { x.restore(0); return 0; });
         Check.none("slot 1 empty", x, () -> { x.restore(1); return 0; });
         Check.state("no change", x, () -> x.undo());
@@ -118,7 +118,7 @@ public final class TextTest {
         x.want(0, true);
         fresh.run(50);
         x.run(50);
-        Check.same("goes on as new", Check.picture(fresh), Check.picture(x));
+        Check.samePicture("goes on as new", Check.picture(fresh), Check.picture(x));
     }
 
     /** What a text told, and what went on in it, is in no way seen behind loading the plainest text. */
@@ -128,7 +128,7 @@ public final class TextTest {
         BlackoutStart x = Texts.loaded("fuse 9;outlet a 9 9 9 9 9;outlet b 9 9 9 9 9;need a b;off a;off b;strict;loss 1;dark 9 9;"
                 + "retry 9;patience 9;");
         Texts.load(x, plain);
-        Check.same("no rule stays", Check.picture(fresh), Check.picture(x));
+        Check.samePicture("no rule stays", Check.picture(fresh), Check.picture(x));
         Texts.load(x, "fuse 40;outlet a 9 9 9 1 9;outlet b 9 19 9 20 9;dark 11 50;");
         x.run(4);
         x.want(0, false);
@@ -136,10 +136,10 @@ public final class TextTest {
         Check.same("b is starting", 2, x.outlet(1, 6));
         Check.same("a message is to be received", 1, x.count(6));
         Texts.load(x, plain);
-        Check.same("no start stays", Check.picture(fresh), Check.picture(x));
+        Check.samePicture("no start stays", Check.picture(fresh), Check.picture(x));
         x.run(20);
         fresh.run(20);
-        Check.same("no stop stays", Check.picture(fresh), Check.picture(x));
+        Check.samePicture("no stop stays", Check.picture(fresh), Check.picture(x));
         Texts.load(x, "fuse 40;outlet a 30 30 30 1 9;");
         x.run(3);
         x.setFuse(9);
@@ -147,7 +147,7 @@ public final class TextTest {
         Check.same("it trips", 1, x.count(5));
         Texts.load(x, plain);
         x.run(20);
-        Check.same("no darkness stays", Check.picture(fresh), Check.picture(x));
+        Check.samePicture("no darkness stays", Check.picture(fresh), Check.picture(x));
     }
 
     private static void failedLoadKeepsAll() {
@@ -162,7 +162,7 @@ public final class TextTest {
         Check.same("errorPosition", 20, x.errorPosition());
         Check.index("buffer empty", x, () -> x.truncate(1));
         java.util.List<Object> after = Check.picture(x);
-        Check.same("all else stays", before.subList(2, before.size()), after.subList(2, after.size()));
+        Check.samePicture("all else stays", before.subList(2, before.size()), after.subList(2, after.size()));
         Check.same("undo stays", 1, x.undo());
         x.restore(1);
         Check.same("slot stays", 3, x.count(2));

@@ -335,6 +335,16 @@ public final class TickEdgesTest extends Edge {
         same("heard in 26", "0 26", marksAndTimes(x));
     }
 
+    private static void tick3_state_idleOfTheMark0() {
+        BlackoutStart x = of(ONE);
+        x.run(24);
+        x.want(0, false);
+        x.run(2);
+        same("GONE is heard in 25, STATE is told in 25", "0 25 STATE0=0", marksAndTimes(x) + " " + wire(x));
+        x.run(1);
+        same("the time alone", "0 26", marksAndTimes(x));
+    }
+
     private static void tick3_state_idleOfTheMark1() {
         BlackoutStart x = stoppedWhenPolled("000100000000");
         x.setFuse(1);

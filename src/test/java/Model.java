@@ -3,6 +3,8 @@ import java.util.Comparator;
 import java.util.HashMap;
 import java.util.List;
 import java.util.Map;
+import java.util.Set;
+import java.util.TreeSet;
 
 /**
  * The document once more, written as plainly as it can be with all of the Java library: objects for
@@ -76,9 +78,12 @@ final class Model {
     List<Message> wire = new ArrayList<>();
     int[] sent = new int[6], lost = new int[6];
     List<Integer> learned = new ArrayList<>(), present = new ArrayList<>();
+    /** What was received, and by whom, as arrival() tells it; the copies add to the same ones. */
+    Set<String> arrivals = new TreeSet<>();
 
     Model copy() {
         Model m = new Model();
+        m.arrivals = arrivals;
         for (Outlet o : outlets) {
             m.outlets.add(o.copy());
         }
@@ -354,7 +359,17 @@ final class Model {
         }
     }
 
+    private static final String[] KINDS = {"ASK", "RUNS", "GONE", "STATE", "GRANT", "POLL"};
+
+    /** The message, the mark and the state that it comes upon, and whether the time of the mark is one tick ago. */
+    private String arrival(Message m) {
+        Outlet o = outlets.get(m.outlet);
+        String message = KINDS[m.kind] + (m.told < 0 ? "" : "=" + m.told);
+        return message + " mark " + o.mark + " state " + o.state() + (o.time == tick - 1 ? " fresh" : "");
+    }
+
     private void receive(Message m) {
+        arrivals.add(arrival(m));
         Outlet o = outlets.get(m.outlet);
         if (m.kind == 0 && (o.mark == 0 || o.mark == 3)) {
             o.mark = 1;

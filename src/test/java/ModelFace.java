@@ -1,6 +1,7 @@
 import java.util.ArrayList;
 import java.util.List;
 import java.util.NoSuchElementException;
+import java.util.Set;
 
 /** The face of the document over the plain model. */
 final class ModelFace {
@@ -10,6 +11,10 @@ final class ModelFace {
     private Model now = new Model();
     private final List<Model> before = new ArrayList<>();
     private final Model[] slots = new Model[2];
+
+    Set<String> arrivals() {
+        return now.arrivals;
+    }
 
     private static void index(boolean is) {
         if (!is) {
